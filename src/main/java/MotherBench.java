@@ -1127,21 +1127,13 @@ public final class MotherBench {
                 System.arraycopy(strictNow, 0, strictByDay, MOST_MOTHERS * day, MOST_MOTHERS);
                 System.arraycopy(satNow, 0, satByDay, MOST_MOTHERS * day, MOST_MOTHERS);
                 for (; event < events && eventDay[event] == day; event++) {
-                    if ((brought >> eventCause[event] & 1) != 0) {
-                        tryHearing(event, present & ~away[day]);
+                    int cause = eventCause[event];
+                    boolean comes = (brought >> cause & 1) != 0 && (eventAppeals[event] == 0 || isHeard(cause));
+                    int bench = comes ? choose(present & ~away[day] & ~satOf[cause]) : 0;
+                    if (bench != 0 && hearings < MOST_HEARINGS) {
+                        hear(cause, day, bench);
                     }
                 }
-            }
-        }
-
-        private void tryHearing(int event, int present) {
-            int cause = eventCause[event];
-            if (eventAppeals[event] == 1 && latest[cause] == NONE) {
-                return;
-            }
-            int bench = choose(present & ~satOf[cause]);
-            if (bench != 0 && hearings < MOST_HEARINGS) {
-                hear(cause, eventDay[event], bench);
             }
         }
 
@@ -1508,10 +1500,6 @@ public final class MotherBench {
             court.plan();
         }
 
-        void holdAll() {
-            court.hold(ALL_CAUSES, ALL_MOTHERS);
-        }
-
         /** The least of the fewest signs by which the sentence is least; NONE if it is never heard. */
         int bestSigns(int cause) {
             suppose();
@@ -1519,7 +1507,7 @@ public final class MotherBench {
             int least = 0;
             for (int set = 0; set <= MOST_SIGNS; set++) {
                 supposed.signs[cause] = set;
-                holdAll();
+                court.hold(ALL_CAUSES, ALL_MOTHERS);
                 int here = court.latestSentence(cause);
                 if (here != NONE && (best == NONE || here < least
                         || here == least && Integer.bitCount(set) < Integer.bitCount(best))) {
@@ -1537,7 +1525,7 @@ public final class MotherBench {
             for (int day = 0; day < supposed.days; day++) {
                 supposed.at[cause] = day;
                 court.plan();
-                holdAll();
+                court.hold(ALL_CAUSES, ALL_MOTHERS);
                 int here = court.latestSentence(cause);
                 if (here != NONE && (best == NONE || here < least)) {
                     best = day;
@@ -1566,7 +1554,7 @@ public final class MotherBench {
         int totalByLaw(int law) {
             suppose();
             supposed.law = law;
-            holdAll();
+            court.hold(ALL_CAUSES, ALL_MOTHERS);
             return court.total();
         }
 
@@ -1608,7 +1596,7 @@ public final class MotherBench {
             suppose();
             supposed.weighs[cause] = Math.max(0, supposed.weighs[cause] - KNEELING * kneels);
             supposed.weighs[other] = Math.max(0, supposed.weighs[other] - KNEELING * otherKneels);
-            holdAll();
+            court.hold(ALL_CAUSES, ALL_MOTHERS);
         }
 
         int gain(int cause, int kneels) {
@@ -1662,7 +1650,7 @@ public final class MotherBench {
             fitting = 0;
             for (int strict = 0; strict <= MOST_STRICT_TOLD; strict++) {
                 trial.supposed.strict[mother] = strict;
-                trial.holdAll();
+                trial.court.hold(ALL_CAUSES, ALL_MOTHERS);
                 if (isAsSeen(slot)) {
                     stricts[fitting] = strict;
                     for (int cause = 0; cause < trial.told.causes; cause++) {
@@ -1722,7 +1710,7 @@ public final class MotherBench {
             int bits = 0;
             for (int law = 0; law < LAWS; law++) {
                 trial.supposed.law = law;
-                trial.holdAll();
+                trial.court.hold(ALL_CAUSES, ALL_MOTHERS);
                 bits |= isAsSeen(slot) ? 1 << law : 0;
             }
             return bits;
