@@ -436,47 +436,30 @@ public final class MotherBench {
     // ---- sentences seen ----
 
     public int fits(int slot, int mother) {
-        int trouble = seenTrouble(slot, mother);
-        if (trouble != 0) {
-            return trouble;
-        }
-        seen.gather(slot, mother);
-        return seen.fitting;
+        int trouble = gatherSeen(slot, mother);
+        return trouble != 0 ? trouble : seen.fitting;
     }
 
     public int low(int slot, int mother) {
-        int trouble = seenTrouble(slot, mother);
-        if (trouble != 0) {
-            return trouble;
-        }
-        seen.gather(slot, mother);
-        return seen.least();
+        int trouble = gatherSeen(slot, mother);
+        return trouble != 0 ? trouble : seen.least();
     }
 
     public int high(int slot, int mother) {
-        int trouble = seenTrouble(slot, mother);
-        if (trouble != 0) {
-            return trouble;
-        }
-        seen.gather(slot, mother);
-        return seen.greatest();
+        int trouble = gatherSeen(slot, mother);
+        return trouble != 0 ? trouble : seen.greatest();
     }
 
     public int ask(int slot, int mother) {
-        int trouble = seenTrouble(slot, mother);
-        if (trouble != 0) {
-            return trouble;
-        }
-        seen.gather(slot, mother);
-        return seen.bestQuestion();
+        int trouble = gatherSeen(slot, mother);
+        return trouble != 0 ? trouble : seen.bestQuestion();
     }
 
     public int leaves(int slot, int mother) {
-        int trouble = seenTrouble(slot, mother);
+        int trouble = gatherSeen(slot, mother);
         if (trouble != 0) {
             return trouble;
         }
-        seen.gather(slot, mother);
         int question = seen.bestQuestion();
         return question == NONE ? seen.fitting : seen.leftAtWorst(question);
     }
@@ -729,8 +712,16 @@ public final class MotherBench {
         return kneels == 0 || kneels == 1;
     }
 
-    private int seenTrouble(int slot, int mother) {
-        return !rows.isSlot(slot) || !isMother(mother) ? NO_SUCH : rowTrouble(slot);
+    /** Gathers the stricts that fit a slot's row; 0, or the answer if they can't be told. */
+    private int gatherSeen(int slot, int mother) {
+        if (!rows.isSlot(slot) || !isMother(mother)) {
+            return NO_SUCH;
+        }
+        int trouble = rowTrouble(slot);
+        if (trouble == 0) {
+            seen.gather(slot, mother);
+        }
+        return trouble;
     }
 
     private int rowTrouble(int slot) {

@@ -195,6 +195,16 @@ public final class HearingTest {
         CHECK.due("below(0)", x.below(0), 0);
         CHECK.due("agrees(1)", x.agrees(1), 3);
         CHECK.due("most()", x.most(), 2);
+        MotherBench three = Check.told("circuit days 3 law 0 odds 0;" + Check.plain(1, 0, 9) + "cause weighs 0 signs 0 at 1;"
+                + "cause weighs 0 signs 0 at 3;cause weighs 5 signs 0 at 2;");
+        CHECK.due("most() of one letter in DAY 2, six in DAY 3", three.most(), 3);
+        CHECK.due("same() of two that are heard", three.same(), 1);
+        MotherBench one = Check.told("circuit days 3 law 0 odds 0;" + Check.plain(0, 1, 9) + "cause weighs 0 signs 0 at 1;");
+        CHECK.due("most() of one letter", one.most(), 2);
+        CHECK.due("apart(0) by the first one", one.apart(0), 9);
+        MotherBench last = Check.told("circuit days 3 law 0 odds 0;" + Check.plain(9, 1, 0) + "cause weighs 0 signs 0 at 1;".repeat(2));
+        CHECK.due("apart(0) by the last one", last.apart(0), 9);
+        CHECK.due("same() of two", last.same(), 1);
     }
 
     private static void nobodyThere() {

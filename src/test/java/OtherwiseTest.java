@@ -78,6 +78,11 @@ public final class OtherwiseTest {
         MotherBench law = Check.told("circuit days 1 law 2 odds 0;" + Check.plain(1, 1, 1) + CAUSE + CAUSE + CAUSE);
         CHECK.due("all() by LAW 2", law.all(), 9);
         CHECK.due("blame() by LAW 2", law.blame(), 0);
+        // Without cause 0 the others have 21 + 3, without cause 1 they have 1 + 3, without cause 2 they stay.
+        MotherBench middle = Check.told("circuit days 1 law 2 odds 0;" + Check.plain(1, 1, 1) + CAUSE
+                + "cause weighs 20 signs 0 at 0;" + CAUSE);
+        CHECK.due("all() of 1, 23, 5", middle.all(), 29);
+        CHECK.due("blame() leaves 1 + 3, not 21 + 3", middle.blame(), 1);
         // Cause 2 alone weighs: without it all() is least, but the others are as they are now.
         MotherBench heavy = Check.told("circuit days 1 law 2 odds 0;" + Check.plain(1, 1, 1) + CAUSE + CAUSE
                 + "cause weighs 30 signs 0 at 0;");

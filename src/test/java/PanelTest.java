@@ -61,6 +61,12 @@ public final class PanelTest {
         CHECK.due("harsh(0) of kin", x.harsh(0), -1);
         CHECK.due("harshes(0) of kin", x.harshes(0), -1);
         CHECK.due("kind(0) of kin", x.kind(0), -1);
+        MotherBench three = Check.told("circuit days 1 law 0 odds 0;" + Check.plain(0, 0, 5) + "cause weighs 0 signs 0 at 0;");
+        CHECK.due("benches() of three", three.benches(), 1);
+        CHECK.due("mild(0) of three", three.mild(0), 0);
+        CHECK.due("milds(0) of three", three.milds(0), 7);
+        CHECK.due("harsh(0) of three", three.harsh(0), 0);
+        CHECK.due("harshes(0) of three", three.harshes(0), 7);
         MotherBench seven = Check.told("circuit days 1 law 0 odds 0;" + Check.plain(1, 2, 3, 4, 5, 6, 7) + "cause weighs 0 signs 0 at 0;");
         CHECK.due("benches() of seven", seven.benches(), 35);
         CHECK.due("harshes(0) of seven: 5, 6 and the first", seven.harshes(0), 97);

@@ -153,6 +153,10 @@ public final class TextTest {
         faulty(HEAD + "mother strict -1 ways 1 1 1 1;", 1, 42);
         faulty(HEAD + "cause weighs 1 signs 1 on 1;", 1, 51);
         faulty(HEAD + "cau se", 1, 28);
+        faulty(HEAD + "kinz 0 1;", 1, 28);
+        faulty(HEAD + "kina 0 1;", 1, 28);
+        faulty(HEAD + "mother strict 1 ways 1 1 1 1{", 1, 56);
+        faulty(HEAD + "mother strict 1 ways 1 1 1 1:", 1, 56);
     }
 
     private static void faultsOfNumbers() {
