@@ -201,6 +201,8 @@ public final class HearingTest {
         CHECK.due("same() of two that are heard", three.same(), 1);
         MotherBench one = Check.told("circuit days 3 law 0 odds 0;" + Check.plain(0, 1, 9) + "cause weighs 0 signs 0 at 1;");
         CHECK.due("most() of one letter", one.most(), 2);
+        CHECK.due("writers(2) of one letter", one.writers(2), 1);
+        CHECK.due("writers(3) of none", one.writers(3), 0);
         CHECK.due("apart(0) by the first one", one.apart(0), 9);
         MotherBench last = Check.told("circuit days 3 law 0 odds 0;" + Check.plain(9, 1, 0) + "cause weighs 0 signs 0 at 1;".repeat(2));
         CHECK.due("apart(0) by the last one", last.apart(0), 9);

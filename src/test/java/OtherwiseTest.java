@@ -71,6 +71,8 @@ public final class OtherwiseTest {
         MotherBench x = Check.told(text);
         CHECK.due("all()", x.all(), 30);
         CHECK.due("blame()", x.blame(), 0);
+        MotherBench little = Check.told("circuit days 1 law 0 odds 0;" + Check.plain(0, 1, 0, 1) + CAUSE + CAUSE);
+        CHECK.due("blame() for one letter", little.blame(), 0);
         MotherBench none = Check.told("circuit days 1 law 0 odds 0;" + Check.plain(0, 30, 30, 0) + CAUSE + CAUSE);
         CHECK.due("blame() of none", none.blame(), -1);
         CHECK.due("blame() without causes", Check.told("circuit days 1 law 0 odds 0;").blame(), -1);
