@@ -109,6 +109,9 @@ public final class EdgesOfChanceTest {
         DOC.says(67, "The mean of all(), above, below. -2: there are none such, no CIRCUIT");
         MotherBench x = Check.told(circuit(1, 0, 3) + Check.plain(7, 7, 7) + CAUSE + "cause weighs 0 signs 0 at 1;");
         mean(x, 21, 10);
+        // 0.1 * 7 each, the chance that both come counted once for each.
+        mean(Check.told(circuit(1, 0, 1) + Check.plain(7, 7, 7) + CAUSE + CAUSE), 7, 5);
+        mean(Check.told(circuit(1, 0, 9) + Check.plain(7, 7, 7) + CAUSE + CAUSE), 63, 5);
         DOC.due("mean(2)", x.mean(2), -2);
         DOC.due("mean(-1)", x.mean(-1), -2);
         DOC.due("mean(0) without a CIRCUIT", new MotherBench().mean(0), -2);
@@ -288,6 +291,11 @@ public final class EdgesOfChanceTest {
         }
         DOC.due("undo() of none", x.undo(), -5);
         DOC.due("appeals(0, 2) of nobody away", x.appeals(0, 2), 14);
+        DOC.due("first(3) of the appeal", x.first(3), 0);
+        x.undo();
+        DOC.due("first(3) without it", x.first(3), -1);
+        DOC.due("sum(3) without it", x.sum(3), 0);
+        DOC.due("docket(2) without it", x.docket(2), 0);
         DOC.due("undo() without a CIRCUIT", new MotherBench().undo(), -2);
     }
 

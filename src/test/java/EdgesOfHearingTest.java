@@ -257,6 +257,9 @@ public final class EdgesOfHearingTest {
             MotherBench x = Check.told(circuit(1, 0) + Check.plain(stricts[i]) + CAUSE);
             DOC.due("sentence of " + java.util.Arrays.toString(stricts[i]), x.sentence(0), middle[i]);
             DOC.due("middle of " + java.util.Arrays.toString(stricts[i]), x.middle(0), first[i]);
+            int[] sorted = stricts[i].clone();
+            java.util.Arrays.sort(sorted);
+            DOC.due("apart of " + java.util.Arrays.toString(stricts[i]), x.apart(0), sorted[2] - sorted[0]);
         }
     }
 
@@ -454,6 +457,11 @@ public final class EdgesOfHearingTest {
         DOC.due("first(0)", x.first(0), 0);
         DOC.due("first(3): not by numbers", x.first(3), 1);
         DOC.due("first(6)", x.first(6), -1);
+        MotherBench gap = Check.told(circuit(1, 0) + Check.plain(1, 2, 3, 4, 5) + "kin 0 1;kin 0 3;" + CAUSE);
+        int[] first = {0, -1, 0, -1, 0};
+        for (int m = 0; m < 5; m++) {
+            DOC.due("first(" + m + ") of 0, 2, 4", gap.first(m), first[m]);
+        }
         int[] agrees = {0, 0, 1, 2, 2, 0, 0};
         int[] sum = {9, 4, 6, 40, 40, 42, 0};
         for (int m = 0; m < 7; m++) {
@@ -467,6 +475,7 @@ public final class EdgesOfHearingTest {
         DOC.due("together(5, 3)", x.together(5, 3), 2);
         DOC.due("together(3, 3)", x.together(3, 3), 2);
         DOC.due("together(0, 3)", x.together(0, 3), 0);
+        DOC.due("together(3, 0)", x.together(3, 0), 0);
         DOC.due("together(0, 0)", x.together(0, 0), 1);
         DOC.due("together(6, 6)", x.together(6, 6), 0);
         DOC.says(37, "In how many HEARINGS a MOTHER FOUND more than each of the other two");
@@ -545,6 +554,8 @@ public final class EdgesOfHearingTest {
         DOC.says(29, "The CAUSE with the greatest SENTENCE, the first of several. NONE: none is HEARD");
         String three = Check.plain(1, 1, 1);
         DOC.due("worst() of 1, 3, 3", Check.told(circuit(1, 0) + three + cause(0, 0, 0) + cause(2, 0, 0) + cause(2, 0, 0)).worst(), 1);
+        DOC.due("worst() of 3, 3, 1", Check.told(circuit(1, 0) + three + cause(2, 0, 0) + cause(2, 0, 0) + cause(0, 0, 0)).worst(), 0);
+        DOC.due("worst() of 1, 3, 4", Check.told(circuit(1, 0) + three + cause(0, 0, 0) + cause(2, 0, 0) + cause(3, 0, 0)).worst(), 2);
         DOC.due("worst() of -, 0", Check.told(circuit(1, 0) + Check.plain(0, 0, 0) + cause(9, 0, 1) + CAUSE).worst(), 1);
         DOC.due("worst() of none", Check.told(circuit(1, 0) + three + cause(9, 0, 1)).worst(), -1);
         DOC.says(30, "The MOTHER who is strictest in a DAY, the first of several");
@@ -568,6 +579,7 @@ public final class EdgesOfHearingTest {
         DOC.says(39, "The CAUSE of whose latest HEARING apart() is greatest, the first of several. NONE: none is HEARD");
         String ways = mother(5, 0, 0, 0, 0) + mother(5, 1, 0, 0, 0) + mother(5, 0, 0, 0, 0);
         DOC.due("dissent() of 0, 1, 1", Check.told(circuit(1, 0) + ways + CAUSE + cause(0, 1, 0) + cause(0, 1, 0)).dissent(), 1);
+        DOC.due("dissent() of 1, 1, 0", Check.told(circuit(1, 0) + ways + cause(0, 1, 0) + cause(0, 1, 0) + CAUSE).dissent(), 0);
         DOC.due("dissent() of -, 0", Check.told(circuit(1, 0) + three + cause(9, 0, 1) + CAUSE).dissent(), 1);
         DOC.due("dissent() of none", Check.told(circuit(1, 0) + three + cause(9, 0, 1)).dissent(), -1);
         DOC.says(40, "Pairs of CAUSES whose latest HEARINGS had one and the same BENCH: how many");

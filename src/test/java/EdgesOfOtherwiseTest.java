@@ -173,6 +173,13 @@ public final class EdgesOfOtherwiseTest {
         last.misses(0, 1);
         DOC.due("when on the DAY ahead of the last alone", last.when(0), 2);
         DOC.says(52, "the least SENTENCE of its latest HEARING (APPEALS as now), the first of several");
+        // On DAY 0 it is before 0, 1, 2: 9; on DAY 1, behind cause 1, before 3, 4, 5: 2; on DAY 2 and 3 too.
+        MotherBench later = Check.told("circuit days 4 law 0 odds 0;" + Check.plain(9, 9, 9, 2, 2, 2) + cause(0, 0, 0) + cause(0, 0, 0));
+        DOC.due("when(0), a later DAY", later.when(0), 1);
+        DOC.due("when(1), behind cause 0 anyway", later.when(1), 0);
+        // By LAW 2 of cause 1 on DAY 1 the mothers get stricter: 4, 4, 6, 6.
+        MotherBench early = Check.told("circuit days 4 law 2 odds 0;" + Check.plain(4, 4, 4) + cause(0, 0, 3) + cause(0, 0, 1));
+        DOC.due("when(0) of 4, 4, 6, 6", early.when(0), 0);
         // Ahead of an appeal of DAY 1 it has 2 (before 3, 4, 5), on DAY 2 it has 9: the appeal comes to nothing.
         MotherBench x = Check.told("circuit days 3 law 0 odds 0;" + Check.plain(9, 9, 9, 2, 2, 2) + cause(0, 0, 2));
         DOC.due("when(0)", x.when(0), 0);
@@ -191,6 +198,8 @@ public final class EdgesOfOtherwiseTest {
         DOC.says(53, "of those without which it is less than SENTENCES of the others are now together, the first of several");
         String four = Check.plain(0, 30, 0, 30);
         DOC.due("blame() of 0", Check.told(ONE_DAY + four + CAUSE + CAUSE).blame(), 0);
+        // Cause 0 has 0 and costs cause 1 just one: without it that has 0.
+        DOC.due("blame() of one letter", Check.told(ONE_DAY + Check.plain(0, 1, 0, 1) + CAUSE + CAUSE).blame(), 0);
         DOC.due("blame() of one alone", Check.told(ONE_DAY + Check.plain(9, 9, 9) + CAUSE).blame(), -1);
         // By LAW 2: 4, 6, 8; without any of the first two: 4 + 6 < 6 + 8 or 4 + 8; without the third 4 + 6: no less.
         MotherBench law = Check.told("circuit days 1 law 2 odds 0;" + Check.plain(4, 4, 4) + CAUSE.repeat(3));
@@ -350,6 +359,13 @@ public final class EdgesOfOtherwiseTest {
         // 0 to 3 find 10, 20, 30, 40: cause 1 is before 3, 0, 1, cause 2 before 2, 3, 0: 30, 29, 34, 31.
         MotherBench one = Check.told("circuit days 1 law 3 odds 0;" + Check.plain(10, 20, 30, 40) + CAUSE.repeat(3));
         DOC.due("law() of 70, 69, 74, 71", one.law(), 1);
+        // Before 0, 1, 2; 3, 4, 0; 1, 2, 3; 4, 0, 1: 5 + 10 + 5 + 10, 5 + 9 + 5 + 9, (more by LAW 2), 5 + 10 + 4 + 10.
+        MotherBench both = Check.told(ONE_DAY + Check.plain(10, 5, 0, 5, 10) + CAUSE.repeat(4));
+        int[] less = {30, 28, 34, 29};
+        for (int law = 0; law < 4; law++) {
+            DOC.due("by(" + law + ") of four", both.by(law), less[law]);
+        }
+        DOC.due("law() of 30, 28, 34, 29", both.law(), 1);
     }
 
     // ---- sets that sit alone ----
@@ -402,9 +418,44 @@ public final class EdgesOfOtherwiseTest {
         MotherBench seven = Check.told(ONE_DAY + Check.plain(1, 1, 1, 1, 1, 1, 1) + CAUSE);
         DOC.due("share(6, 0) of seven", seven.share(6, 0), 1);
         DOC.due("share(6, 1) of seven", seven.share(6, 1), 7);
+        everyOrder();
         DOC.due("share(7, 0)", seven.share(7, 0), -1000000);
         DOC.due("share(0, 2)", seven.share(0, 2), -1000000);
         DOC.due("share(0, -1)", seven.share(0, -1), -1000000);
+    }
+
+    /** All 5040 orders of seven unlike mothers, by what worth() tells of each set. */
+    private static void everyOrder() {
+        MotherBench x = Check.told("circuit days 2 law 1 odds 0;" + Check.plain(3, 40, 1, 20, 7, 33, 12) + "kin 0 3;kin 5 6;"
+                + cause(4, 0, 0) + cause(0, 0, 1) + cause(9, 0, 1));
+        int[] worth = new int[128];
+        for (int set = 0; set < 128; set++) {
+            worth[set] = x.worth(set);
+        }
+        long[] together = new long[7];
+        long orders = follow(0, worth, together);
+        DOC.due("orders", orders, 5040);
+        for (int m = 0; m < 7; m++) {
+            long above = x.share(m, 0);
+            long below = x.share(m, 1);
+            DOC.due("share of " + m + ", by all orders", above * orders, together[m] * below);
+            DOC.due("share of " + m + " in lowest terms",
+                    java.math.BigInteger.valueOf(above).gcd(java.math.BigInteger.valueOf(below)).longValue(), 1);
+            DOC.due("share of " + m + ", below above 0", below > 0 ? 1 : 0, 1);
+        }
+    }
+
+    /** How many orders go on from a set; what each mother brings in them is added up. */
+    private static long follow(int set, int[] worth, long[] together) {
+        long orders = set == 127 ? 1 : 0;
+        for (int m = 0; m < 7; m++) {
+            if ((set >> m & 1) == 0) {
+                long here = follow(set | 1 << m, worth, together);
+                together[m] += here * (worth[set | 1 << m] - worth[set]);
+                orders += here;
+            }
+        }
+        return orders;
     }
 
     // ---- two who may kneel ----

@@ -16,6 +16,7 @@ public final class EdgesOfTextTest {
         blanks();
         longestTokens();
         bytesThatAreNoToken();
+        wordsByEveryLetter();
         firstByItsPlace();
         ends();
         ofOnePlaceTheLeast();
@@ -180,6 +181,9 @@ public final class EdgesOfTextTest {
         DOC.faulty(HEAD + "motherstrict 1 ways 1 1 1 1;", 1, AT);
         DOC.faulty(HEAD + "mothe strict 1 ways 1 1 1 1;", 1, AT);
         DOC.faulty(HEAD + "causes weighs 1 signs 1 at 1;", 1, AT);
+        DOC.faulty(HEAD + "kinz 0 1;", 1, AT);
+        DOC.faulty(HEAD + "kina 0 1;", 1, AT);
+        DOC.faulty(HEAD + "zkin 0 1;", 1, AT);
     }
 
     private static void bytesThatAreNoToken() {
@@ -200,6 +204,23 @@ public final class EdgesOfTextTest {
         DOC.faulty(HEAD + "cause weighs 1 signs 1 1;", 1, AT + 23);
         DOC.faulty("circuit days 4 odds 5;", 1, 15);
         DOC.faulty("circuit days 4 law 1;", 1, 20);
+    }
+
+    /** A text of words that are due, one letter of which is another: at fault is the word, from its first byte on. */
+    private static void wordsByEveryLetter() {
+        DOC.says("I", "LINE: circuit days N law N odds N | mother strict N ways N N N N | kin M M | cause weighs N signs N at N");
+        String text = HEAD + MOTHER + MOTHER + "kin 0 1;" + CAUSE;
+        DOC.faulty(text, 0, -1);
+        for (int i = 0; i < text.length(); i++) {
+            int place = i;
+            while (place > 0 && isLetter(text.charAt(place - 1))) {
+                place--;
+            }
+            if (isLetter(text.charAt(i))) {
+                DOC.faulty(text.substring(0, i) + "z" + text.substring(i + 1), 1, place);
+                DOC.faulty(text.substring(0, i) + "a".repeat(text.charAt(i) == 'a' ? 2 : 1) + text.substring(i + 1), 1, place);
+            }
+        }
     }
 
     private static void firstByItsPlace() {
@@ -355,13 +376,13 @@ public final class EdgesOfTextTest {
     private static void circuits() {
         DOC.says(4, "how many LINES (0: there is none then)");
         for (String text : new String[] {"", " ", "\n", " \n".repeat(350)}) {
-            MotherBench x = Check.told(HEAD + MOTHER);
+            MotherBench x = Check.told(HEAD + MOTHER + MOTHER + "kin 0 1;" + CAUSE);
+            x.misses(0, 0);
             Check.put(x, text);
             DOC.due("circuit() of blanks", x.circuit(), 0);
-            DOC.due("count(7)", x.count(7), 0);
-            DOC.due("count(0)", x.count(0), 0);
-            DOC.due("count(3)", x.count(3), 0);
-            DOC.due("count(8)", x.count(8), 0);
+            for (int what = 0; what <= 8; what++) {
+                DOC.due("count(" + what + ")", x.count(what), 0);
+            }
             DOC.due("all()", x.all(), -2);
             DOC.due("strict(0, 0)", x.strict(0, 0), -2);
             DOC.due("fault(0)", x.fault(0), 0);

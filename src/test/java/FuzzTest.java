@@ -1,45 +1,31 @@
 import java.lang.reflect.Method;
-import java.lang.reflect.Modifier;
-import java.nio.charset.StandardCharsets;
 import java.util.ArrayList;
-import java.util.Arrays;
-import java.util.Comparator;
 import java.util.List;
 import java.util.Random;
 
 /** Runs of calls by chance, seeds fixed: MotherBench and Model must answer alike, call by call. */
 public final class FuzzTest {
-    private final Random random;
-    private final MotherBench bench = new MotherBench();
-    private final Model model = new Model();
-    private final List<Method> methods;
-    private final List<String> told = new ArrayList<>();
-    private boolean wrong;
+    private static final List<Method> METHODS = new ArrayList<>(Twins.FACE.values());
 
-    private FuzzTest(long seed, List<Method> methods) {
+    private final Random random;
+    private final Twins twins = new Twins();
+
+    private FuzzTest(long seed) {
         random = new Random(seed);
-        this.methods = methods;
     }
 
     public static void main(String[] args) throws Exception {
         int runs = args.length > 0 ? Integer.parseInt(args[0]) : 500;
         long first = args.length > 1 ? Long.parseLong(args[1]) : 1;
-        List<Method> methods = new ArrayList<>();
-        for (Method m : MotherBench.class.getDeclaredMethods()) {
-            if (Modifier.isPublic(m.getModifiers())) {
-                methods.add(m);
-            }
-        }
-        methods.sort(Comparator.comparing(Method::getName));
-        if (methods.size() != 79) {
-            System.out.println("the face has " + methods.size() + " methods, due are 79");
+        if (METHODS.size() != 79) {
+            System.out.println("the face has " + METHODS.size() + " methods, due are 79");
             System.exit(1);
         }
         for (long seed = first; seed < first + runs; seed++) {
-            FuzzTest test = new FuzzTest(seed, methods);
+            FuzzTest test = new FuzzTest(seed);
             test.run();
-            if (test.wrong) {
-                test.told.forEach(System.out::println);
+            if (test.twins.unlike) {
+                test.twins.told.forEach(System.out::println);
                 System.out.println("by seed " + seed);
                 System.exit(1);
             }
@@ -48,22 +34,20 @@ public final class FuzzTest {
     }
 
     private void run() throws Exception {
-        int left = 512;
         if (random.nextInt(10) > 0) {
-            left -= tell(circuitText());
+            twins.tell(circuitText());
         }
-        for (int i = 0; i < 60 && left > 40 && !wrong; i++) {
+        for (int i = 0; i < 60 && twins.calls < 470 && !twins.unlike; i++) {
             int way = random.nextInt(60);
             if (way == 0) {
-                left -= tell(spoilt(circuitText()));
+                twins.tell(spoilt(circuitText()));
             } else if (way == 1) {
-                left -= tell(circuitText());
+                twins.tell(circuitText());
             } else if (way < 6) {
-                left -= writeSeen();
+                writeSeen();
             } else {
-                Method m = methods.get(random.nextInt(methods.size()));
-                call(m.getName(), arguments(m));
-                left--;
+                Method m = METHODS.get(random.nextInt(METHODS.size()));
+                twins.call(m.getName(), arguments(m));
             }
         }
     }
@@ -124,45 +108,24 @@ public final class FuzzTest {
         return t.toString();
     }
 
-    private int tell(String text) throws Exception {
-        byte[] bytes = text.getBytes(StandardCharsets.ISO_8859_1);
-        int calls = 4;
-        call("end", new long[] {0});
-        for (int i = 0; i < bytes.length; i += 20) {
-            byte[] piece = Arrays.copyOfRange(bytes, i, i + 20);
-            long[] numbers = new long[5];
-            for (int k = 0; k < 5; k++) {
-                numbers[k] = java.nio.ByteBuffer.wrap(piece).getInt(4 * k);
-            }
-            call("feed", numbers);
-            calls++;
-        }
-        call("end", new long[] {bytes.length});
-        call("circuit", new long[0]);
-        call("fault", new long[] {0});
-        call("fault", new long[] {1});
-        return calls + 2;
-    }
-
     /** A row of what is seen, true for the most part, then what is asked of it. */
-    private int writeSeen() throws Exception {
+    private void writeSeen() throws Exception {
         int slot = random.nextInt(4);
         int pairs = random.nextInt(4);
         int width = random.nextInt(4);
-        call("row", new long[] {slot, width, 2 * pairs});
+        twins.call("row", slot, width, 2 * pairs);
         for (int i = 0; i < pairs; i++) {
             int cause = random.nextInt(random.nextInt(5) == 0 ? 9 : 3);
-            long seen = model.call("sentence", new long[] {cause});
+            long seen = twins.model.call("sentence", new long[] {cause});
             seen = random.nextInt(4) == 0 ? random.nextInt(60) - 2 : Math.max(-1, seen);
-            call("write", new long[] {slot, 2 * i, cause});
-            call("write", new long[] {slot, 2 * i + 1, seen});
+            twins.call("write", slot, 2 * i, cause);
+            twins.call("write", slot, 2 * i + 1, seen);
         }
         int mother = random.nextInt(7);
         for (String name : new String[] {"fits", "low", "high", "ask", "leaves"}) {
-            call(name, new long[] {slot, mother});
+            twins.call(name, slot, mother);
         }
-        call("laws", new long[] {slot});
-        return 7 + 2 * pairs;
+        twins.call("laws", slot);
     }
 
     // ---- calls ----
@@ -196,17 +159,5 @@ public final class FuzzTest {
 
     private long seed() {
         return random.nextInt(5) == 0 ? 2000000000L - 3 + random.nextInt(6) : random.nextInt(2000000000);
-    }
-
-    private void call(String name, long[] a) throws Exception {
-        Method m = methods.stream().filter(x -> x.getName().equals(name)).findFirst().orElseThrow();
-        Object[] given = new Object[a.length];
-        for (int i = 0; i < a.length; i++) {
-            given[i] = m.getParameterTypes()[i] == long.class ? (Object) a[i] : (Object) (int) a[i];
-        }
-        long got = ((Number) m.invoke(bench, given)).longValue();
-        long want = model.call(name, a);
-        told.add(name + Arrays.toString(a) + " answered " + got + (got == want ? "" : ", due is " + want));
-        wrong = wrong || got != want;
     }
 }
