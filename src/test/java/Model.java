@@ -205,7 +205,7 @@ final class Model {
                 case "mother" -> "mother strict 0-40 ways 0-20 0-20 0-20 0-20 ;";
                 case "kin" -> "kin M M ;";
                 case "cause" -> "cause weighs 0-30 signs 0-15 at 0-13 ;";
-                default -> "?";
+                default -> "<no line>";
             };
             boolean tooMany = w.lines > 0 && (head.equals("mother") && w.mothers.size() == 7
                     || head.equals("kin") && w.kin.size() == 8 || head.equals("cause") && w.causes.size() == 8);
